@@ -207,7 +207,7 @@ public final class RayGround {
         if (!isYear(year)) {
             return BAD;
         }
-        return fitting.bringTogether(years[year]) ? 1 : NOT;
+        return fitting.bringTogether(years[year]);
     }
 
     public long leftOver(int year) {
@@ -337,23 +337,24 @@ public final class RayGround {
             return fault;
         }
         int done = 0;
-        while (done < jobText.steps && doStep(year, done) >= 0) {
+        while (done < jobText.steps && doStep(years[year], done) >= 0) {
             done++;
         }
         return done;
     }
 
-    private int doStep(int year, int step) {
+    // The numbers of a step are as they may be: a text with others is a fault.
+    private int doStep(Year held, int step) {
         int first = jobText.first[step];
         int second = jobText.second[step];
         char letter = jobText.letter[step];
         if (letter == 'F') {
-            return fit(year);
+            return fitting.bringTogether(held);
         }
         if (letter == 'G') {
-            return grow(year, first, second, jobText.third[step]);
+            return held.growGround(first, second, jobText.third[step]);
         }
-        return roofs(year, first, second);
+        return roofFinder.findAll(held, first, second);
     }
 
     private static boolean isYear(int year) {
@@ -382,10 +383,6 @@ public final class RayGround {
 
     private static int tileOf(int x, int y) {
         return x / 16 + 4 * (y / 16);
-    }
-
-    private static int squareOf(int x, int y) {
-        return x / 4 + SQUARES_IN_ROW * (y / 4);
     }
 
     /** A row of one lane. The row is made once and used again, so that many new rows take no room. */
@@ -457,7 +454,7 @@ public final class RayGround {
         }
 
         int square(int p) {
-            return squareOf(x[p], y[p]);
+            return x[p] / 4 + SQUARES_IN_ROW * (y[p] / 4);
         }
 
         boolean canTake(int[] items, int from, int n) {
@@ -585,11 +582,10 @@ public final class RayGround {
             return countKind(GROUND);
         }
 
+        // What is ground by hand is so in round 0 already, and stays.
         void startFromSeeds() {
             for (int p = 0; p < size; p++) {
-                if (byHand[p] == GROUND) {
-                    settle(p, GROUND, 0);
-                } else {
+                if (byHand[p] != GROUND) {
                     settle(p, HIGH, NO_ROUND);
                 }
             }
@@ -659,21 +655,21 @@ public final class RayGround {
         final long[] right = new long[UNKNOWN];
         final int[] found = new int[UNKNOWN];
 
-        /** Answers whether there is one least choice within the bounds; only then the shifts are changed. */
-        boolean bringTogether(Year year) {
+        /** Answers 1, or NOT unless there is one least choice, within the bounds: then no shift is changed. */
+        int bringTogether(Year year) {
             countPoints(year);
             if (pointsOf[0] == 0) {
-                return false;
+                return NOT;
             }
             setEquations(year);
             if (!solve()) {
-                return false;
+                return NOT;
             }
             year.shifts[0] = 0;
             for (int u = 0; u < UNKNOWN; u++) {
                 year.shifts[u + 1] = found[u];
             }
-            return true;
+            return 1;
         }
 
         void countPoints(Year year) {
@@ -920,7 +916,7 @@ public final class RayGround {
         }
 
         boolean isFilled(int i, int j) {
-            return at(i, j) != GAP;
+            return cells[i + SQUARES_IN_ROW * j] != GAP;
         }
 
         boolean isQuad(int i, int j) {

@@ -154,6 +154,10 @@ final class GridTest {
         linesAre("corner to corner", field(6, 6, "11.", "191", ".11"), 5, 2, 0);
         // A gap cuts a line in two.
         linesAre("cut", field(0, 3, "99999", "11.11", "11.11"), 5, 2, 0);
+        // The far side of the grid is no neighbour of the near one.
+        RayGround sides = field(14, 4, "11", "99");
+        ground(sides, 0, 0, 5, 1, 1, 5, 1, 0, 6, 9, 1, 6, 9);
+        linesAre("two sides", sides, 5, 2, 0);
         linesAre("straight", field(0, 3, "99999", "11111"), 5, 1, 0);
         linesAre("three lines", field(0, 3, "9191", "9191"), 5, 3, 0);
     }

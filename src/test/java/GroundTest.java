@@ -15,6 +15,7 @@ final class GroundTest {
         roofsOneBehindTheOther();
         roofsOfMarks();
         roofsFull();
+        roofsFullFromTheFirst();
         roofsRefuse();
         countAnswers();
         DUE.end();
@@ -113,6 +114,10 @@ final class GroundTest {
         roundsAre("further", g, 0, 1, 1, 2, -1, 3);
         DUE.is("grown steeper", g.grow(0, 7, 1, 2), 6);
         roundsAre("steeper", g, 0, 2, 1, 3, 4, 5);
+        RayGround first = new RayGround();
+        Due.put(first, 0, 2, 0, 2, 0, 1, 0, 1, 0, 0, 0, 0, 0);
+        DUE.is("the first comes last", first.grow(0, 1, 1, 1), 3);
+        roundsAre("the first comes last", first, 2, 1, 0);
         DUE.is("grown less again", g.grow(0, 1, 1, 1), 1);
         kindsAre("less", g, 1, 2, 2, 2, 2, 2);
         // Down counts like up, from a seed of a tile to one of another.
@@ -283,6 +288,11 @@ final class GroundTest {
             DUE.is("count of a roof", g.count(0, what), 4);
         }
         DUE.is("count of high", g.count(0, 2), 4);
+        // Those that are left behind a first roof are looked at with places and heights of their own.
+        RayGround left = high(3, 7, 10, 0, 11, 6, 575, 0, 4, 3, 10, 0, 6, 7, 10, 0, 13, 2, 553, 0, 9, 9, 590, 0,
+            7, 3, 10, 0, 14, 5, 900, 0, 2, 5, 10, 0, 12, 12, 620, 0);
+        DUE.is("two roofs", left.roofs(0, 0, 4), 2);
+        kindsAre("the second of what is left", left, 1, 1, 3, 4, 3, 3, 4, 4, 3, 2, 3, 4);
         // The larger comes first, wherever its points are.
         RayGround h = high(1, 1, 100, 0, 2, 1, 100, 0, 1, 2, 100, 0, 10, 1, 700, 0, 12, 2, 700, 0, 8, 5, 700, 0, 13, 6, 700, 0);
         DUE.is("two roofs", h.roofs(0, 0, 3), 2);
@@ -347,6 +357,20 @@ final class GroundTest {
         DUE.is("39 of a roof", g.count(0, 3), 39);
         DUE.is("bad ahead of full", g.roofs(0, 51, 3), -1);
         DUE.is("39 of a roof stay", g.count(0, 3), 39);
+    }
+
+    // The first point counts like any other.
+    private static void roofsFullFromTheFirst() {
+        RayGround g = new RayGround();
+        for (int k = 0; k < 5; k++) {
+            Due.putRow(g, 0, 2 + 2 * k, 2, 7, 8);
+        }
+        Due.put(g, 0, 14, 14, 7, 0, 0, 0, -3000, 0);
+        DUE.is("grown", g.grow(0, 0, 1, 1), 1);
+        DUE.is("41", g.roofs(0, 1, 3), -3);
+        g.hand(0, 20, 2);
+        DUE.is("40", g.roofs(0, 0, 40), 1);
+        kindsAre("the first", g, 3);
     }
 
     private static void roofsRefuse() {

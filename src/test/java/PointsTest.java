@@ -158,6 +158,26 @@ final class PointsTest {
         DUE.is("no fifth", g.told(0, 4, 0), -10001);
         DUE.is("the other year's stay", g.count(1, 11), 1);
         DUE.is("the other year's tiles stay", g.count(1, 12), 0);
+        // All that a point is moves along, and what comes into a place that was left has nothing of it.
+        RayGround h = new RayGround();
+        Due.put(h, 0, 50, 50, 0, 0, 1, 2, 3, 1, 7, 9, 5, 2, 8, 10, 6, 3);
+        h.grow(0, 0, 1, 1);
+        h.hand(0, 3, 2);
+        DUE.is("one went", h.lose(0, 15), 1);
+        int[][] left = {{1, 2, 3, 1, 1, 0, 0}, {7, 9, 5, 2, 2, 0, -1}, {8, 10, 6, 3, 2, 2, -1}};
+        for (int p = 0; p < left.length; p++) {
+            for (int what = 0; what < 7; what++) {
+                DUE.is("all of it, " + p + " " + what, h.told(0, p, what), left[p][what]);
+            }
+        }
+        h.hand(0, 1, 1);
+        h.lose(0, 0);
+        DUE.is("three come", Due.put(h, 0, 40, 40, 1, 0, 40, 41, 1, 0, 40, 42, 1, 0), 3);
+        for (int p = 0; p < 3; p++) {
+            DUE.is("open", h.told(0, p, 4), 0);
+            DUE.is("not by hand", h.told(0, p, 5), 0);
+            DUE.is("no round", h.told(0, p, 6), -1);
+        }
         DUE.is("none went", g.lose(0, 15), 0);
         DUE.is("two tiles are lost", g.count(0, 12), 2);
         DUE.is("the rest", g.lose(0, 1), 3);
