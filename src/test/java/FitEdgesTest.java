@@ -20,6 +20,8 @@ final class FitEdgesTest {
         pairsOfOneSquareAlone();
         pairsOfUnlikeStripsAlone();
         fitMindsNoShiftsThereAre();
+        fitBehindTheOtherYear();
+        fitFromAnyFirstPoint();
         fitOfAHundred();
         leftOverOfNone();
         leftOverAtItsMost();
@@ -246,6 +248,34 @@ final class FitEdgesTest {
             g.shift(0, 0, -before);
             DUE.is("whatever shifts: fit", g.fit(0), 1);
             shiftsAre("whatever shifts", g, 0, 0, 15, 0, 0);
+        }
+    }
+
+    // What strips one year has points of is nothing to the other one, nor what it had once.
+    private static void fitBehindTheOtherYear() {
+        RayGround g = new RayGround();
+        Due.put(g, 1, 0, 0, 5, 0, 0, 0, 6, 1, 0, 0, 7, 2, 0, 0, 8, 3);
+        DUE.is("the other year: fit", g.fit(1), 1);
+        DUE.is("the other year: of no points", g.fit(0), NOT);
+        Due.put(g, 0, 0, 0, 5, 0);
+        DUE.is("the other year: of strip 0 alone", g.fit(0), 1);
+        g.lose(1, 0);
+        DUE.is("the other year: all went", g.fit(1), NOT);
+    }
+
+    private static void fitFromAnyFirstPoint() {
+        for (int first = 0; first < 4; first++) {
+            RayGround g = new RayGround();
+            int[] want = new int[4];
+            for (int k = 0; k < 4; k++) {
+                int strip = (first + k) % 4;
+                Due.put(g, 0, 0, 0, 7 * strip * strip, strip);
+                want[strip] = -7 * strip * strip;
+            }
+            Due.put(g, 0, 1, 1, 0, 0);
+            DUE.is("any first point: fit", g.fit(0), 1);
+            shiftsAre("any first point", g, 0, want);
+            DUE.is("any first point: nothing is left over", g.leftOver(0), 0);
         }
     }
 

@@ -23,6 +23,11 @@ final class GridEdgesTest {
         linesOfALevelField();
         linesClosedOnlyWithin();
         linesOfEachCorner();
+        linesAskedAgain();
+        linesOpenAheadOfClosed();
+        linesAtTheLastRowAndColumn();
+        linesThroughEachEdge();
+        linesThatGoUpAgain();
         changedOfGaps();
         changedOfOneYear();
         changedByT();
@@ -279,6 +284,71 @@ final class GridEdgesTest {
         linesAre("the corner across", quad(0, 0, 1, 1, 1, 9), 5, 1, 0);
         linesAre("both on the diagonal", quad(0, 0, 9, 1, 1, 9), 5, 2, 0);
         linesAre("both off the diagonal", quad(0, 0, 1, 9, 9, 1), 5, 2, 0);
+    }
+
+    private static void linesAskedAgain() {
+        for (int place = 0; place < 15; place += 14) {
+            RayGround g = quad(place, place, 1, 9, 1, 1);
+            for (int times = 0; times < 3; times++) {
+                linesAre("asked again", g, 5, 1, 0);
+            }
+        }
+    }
+
+    // One that is open, at the first third of all, and one that is closed behind it; then the other way round.
+    private static void linesOpenAheadOfClosed() {
+        RayGround g = top(4, 0);
+        put(g, 0, 0, 0, 1, 1, 0, 9, 0, 1, 1, 1, 1, 1);
+        linesAre("open ahead of closed", g, 5, 2, 1);
+        RayGround h = top(4, 0);
+        put(h, 0, 9, 0, 1, 10, 0, 9, 9, 1, 1, 10, 1, 1);
+        linesAre("closed ahead of open", h, 5, 2, 1);
+    }
+
+    // They end there: what lies at the other side of the grid is no neighbour.
+    private static void linesAtTheLastRowAndColumn() {
+        RayGround right = quad(14, 4, 1, 9, 1, 9);
+        put(right, 0, 0, 4, 9, 0, 5, 9, 0, 6, 1, 1, 5, 1, 1, 6, 1);
+        linesAre("at the last column", right, 5, 2, 0);
+        linesAre("at the last column, across", quad(14, 4, 1, 1, 1, 9), 5, 1, 0);
+        linesAre("at the last row", quad(4, 14, 1, 1, 1, 9), 5, 1, 0);
+        linesAre("at the last corner", quad(14, 14, 1, 1, 1, 9), 5, 1, 0);
+        linesAre("at the last corner, through the edges", quad(14, 14, 9, 1, 9, 1), 5, 1, 0);
+    }
+
+    // Rows and columns of two heights: a line crosses all thirds between them, from end to end.
+    private static void linesThroughEachEdge() {
+        RayGround rows = new RayGround();
+        RayGround columns = new RayGround();
+        for (int k = 0; k < 16; k++) {
+            put(rows, 0, k % 8, k / 8, k < 8 ? 9 : 1);
+            put(columns, 0, k / 8, k % 8, k < 8 ? 9 : 1);
+        }
+        linesAre("between two rows", rows, 5, 1, 0);
+        linesAre("between two columns", columns, 5, 1, 0);
+        rows.hand(0, 3, 2);
+        columns.hand(0, 3, 2);
+        linesAre("between two rows, cut", rows, 5, 2, 0);
+        linesAre("between two columns, cut", columns, 5, 2, 0);
+    }
+
+    // Down from the first third of all, below three tops, and up again to a third whose way on is a gap; and turned.
+    private static void linesThatGoUpAgain() {
+        String[] rows = {"11.11", "19991", "11111"};
+        for (int turned = 0; turned < 2; turned++) {
+            for (int across = 0; across < 2; across++) {
+                RayGround g = new RayGround();
+                for (int k = 0; k < 15; k++) {
+                    int i = turned == 1 ? 4 - k % 5 : k % 5;
+                    int j = turned == 1 ? 2 - k / 5 : k / 5;
+                    char c = rows[k / 5].charAt(k % 5);
+                    if (c != '.') {
+                        put(g, 0, across == 1 ? j : i, across == 1 ? i : j, c - '0');
+                    }
+                }
+                linesAre("up again", g, 5, 1, 0);
+            }
+        }
     }
 
     private static void changedOfGaps() {

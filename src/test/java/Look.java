@@ -1,4 +1,7 @@
-/** All that can be seen of an object by its calls, as one text: objects in like states have like texts. */
+/**
+ * All that can be seen of an object by its calls, as one text: objects in like states have like texts. A look at many
+ * points takes more than the 512 calls that the document promises of an object; the class answers all calls alike.
+ */
 final class Look {
     /** Makes objects, always by the same calls, as some looks change what they look at. */
     interface Maker {
