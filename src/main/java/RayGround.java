@@ -1173,7 +1173,7 @@ public final class RayGround {
             steps = 0;
             faulty = false;
             readStep();
-            while (!faulty && hasMore() && steps < MOST_STEPS) {
+            for (int step = 1; step < MOST_STEPS && !faulty && hasMore(); step++) {
                 readBetween();
                 readStep();
             }

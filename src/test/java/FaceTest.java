@@ -20,6 +20,7 @@ final class FaceTest {
     public static void main(String[] args) {
         methodsAreOfTheFace();
         constantsAreOfTheFace();
+        classesInsideAreSmall();
         objectsAreApart();
         DUE.end();
     }
@@ -63,6 +64,26 @@ final class FaceTest {
             DUE.holds(inside.getName() + " is hidden",
                 !Modifier.isPublic(inside.getModifiers()) && !Modifier.isProtected(inside.getModifiers()));
         }
+    }
+
+    // LANGUAGE.md, rules 1 and 11: no name of the face stands inside, and a class has some twenty fields at most.
+    private static void classesInsideAreSmall() {
+        TreeSet<String> names = new TreeSet<>();
+        for (String call : FACE) {
+            names.add(call.replaceAll("^\\w+ (\\w+)\\(.*", "$1"));
+        }
+        DUE.is("names of the face", names.size(), FACE.length);
+        DUE.holds("fields of RayGround", fieldsOf(RayGround.class) <= 20);
+        for (Class<?> inside : RayGround.class.getDeclaredClasses()) {
+            DUE.holds("fields of " + inside.getName(), fieldsOf(inside) <= 20);
+            for (Method m : inside.getDeclaredMethods()) {
+                DUE.holds(inside.getName() + " has no " + m.getName(), !names.contains(m.getName()));
+            }
+        }
+    }
+
+    private static long fieldsOf(Class<?> type) {
+        return Arrays.stream(type.getDeclaredFields()).filter(f -> !Modifier.isStatic(f.getModifiers())).count();
     }
 
     // What is done with one object is not seen in another.

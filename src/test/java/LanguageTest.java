@@ -19,6 +19,7 @@ final class LanguageTest {
         forbidden(code);
         library(code);
         methods(code);
+        loops(code);
         DUE.end();
     }
 
@@ -69,5 +70,42 @@ final class LanguageTest {
             DUE.holds("seven parameters at most: " + head.group().trim(), head.group(2).split(",").length <= 7);
         }
         DUE.holds("methods are found", found > 50);
+    }
+
+    // Each loop counts in its own lines, against a bound that stands in its head (rule 9).
+    private static void loops(String code) {
+        Matcher head = Pattern.compile("(?m)^ *(for|while) \\((.*)\\) \\{$").matcher(code);
+        int found = 0;
+        while (head.find()) {
+            found++;
+            String inside = head.group(2);
+            if (head.group(1).equals("while")) {
+                String body = code.substring(head.end(), endOfBlock(code, head.end()));
+                DUE.holds("counts: while (" + inside + ")", counts(inside, body));
+            } else if (!inside.contains(" : ")) {
+                String[] parts = inside.split(";");
+                DUE.holds("counts: for (" + inside + ")", parts.length == 3 && counts(parts[1], parts[2] + ";"));
+            }
+        }
+        DUE.is("loops looked at", found, code.split("\\b(for|while) \\(", -1).length - 1);
+    }
+
+    private static boolean counts(String condition, String lines) {
+        Matcher bound = Pattern.compile("\\b(\\w+)(?: - \\w+)? [<>]=? ").matcher(condition);
+        boolean found = false;
+        while (bound.find()) {
+            found |= Pattern.compile("\\b" + bound.group(1) + "(\\+\\+|--);").matcher(lines).find();
+        }
+        return found;
+    }
+
+    private static int endOfBlock(String code, int from) {
+        int depth = 1;
+        int at = from;
+        while (depth > 0 && at < code.length()) {
+            depth += code.charAt(at) == '{' ? 1 : code.charAt(at) == '}' ? -1 : 0;
+            at++;
+        }
+        return at;
     }
 }
